@@ -43,9 +43,8 @@ public final class SeatStraps {
   private final Car kept = new Car();
   // What only might be is tried out here, so that no call makes objects of its own.
   private final Car trial = new Car();
-  private final Tape tape = new Tape();
-  private final CarText text = new CarText(tape, trial);
-  private final Ways ways = new Ways(live, trial);
+  private final CarText text = new CarText();
+  private final Ways ways = new Ways();
   private final Sheet[] sheets = new Sheet[SHEETS];
   private final int[] told = new int[FINDINGS];
   private boolean somethingKept = false;
@@ -282,7 +281,7 @@ public final class SeatStraps {
     if (live.sitting() != 0) {
       return tell(STATE);
     }
-    ways.find(set);
+    ways.find(live, set);
     return ways.bestSeconds;
   }
 
@@ -296,7 +295,7 @@ public final class SeatStraps {
     if (live.sitting() != 0) {
       return tell(STATE);
     }
-    ways.find(set);
+    ways.find(live, set);
     return ways.bestSteps[step];
   }
 
@@ -385,25 +384,26 @@ public final class SeatStraps {
     if (n < 1 || n > 4) {
       return tell(BEYOND);
     }
-    if (tape.length + n > MOST_BYTES) {
+    if (text.tape.length + n > MOST_BYTES) {
       return tell(FULL);
     }
     for (int i = n - 1; i >= 0; i--) {
-      tape.add((bytes >>> (8 * i)) & 255);
+      text.tape.add((bytes >>> (8 * i)) & 255);
     }
-    return tape.length;
+    return text.tape.length;
   }
 
   public int wipe() {
-    int had = tape.length;
-    tape.length = 0;
+    int had = text.tape.length;
+    text.tape.length = 0;
     return had;
   }
 
   public int car() {
+    // Items come to the trial first: with a fault nothing of them may stay.
     trial.become(live);
-    int items = text.parse();
-    tape.length = 0;
+    int items = text.parse(trial);
+    text.tape.length = 0;
     if (text.hasFault()) {
       return -1 - text.fault;
     }
@@ -547,7 +547,7 @@ public final class SeatStraps {
       case 0:
         return live.count;
       case 1:
-        return tape.length;
+        return text.tape.length;
       case 2:
         return Integer.bitCount(live.sitting());
       case 3:
@@ -608,7 +608,6 @@ public final class SeatStraps {
   /** What the kinds of children have of their own, and what of the kind above. */
   private static final class Kinds {
     private static final int[] ABOVE = {-1, CHILD, CHILD, CHILD, ARCHER, BIG};
-    private static final int CHILD_TAKES = 10;
 
     static boolean isOneOf(int kind, int wanted) {
       int k = kind;
@@ -622,39 +621,39 @@ public final class SeatStraps {
     }
 
     static int takes(int kind, Child child, Seat seat) {
+      int asChild = 10;
+      int asArcher = asChild + 3 * child.arch;
+      int asBig = asChild / 2;
       switch (kind) {
         case ARCHER:
-          return archerTakes(child);
+          return asArcher;
         case BIG:
-          return CHILD_TAKES / 2;
+          return asBig;
         case BABY:
-          return seat.turned == 1 ? CHILD_TAKES : CHILD_TAKES + 5;
+          return seat.turned == 1 ? asChild : asChild + 5;
         case HOWLER:
-          return child.mood < 3 ? 2 * archerTakes(child) : archerTakes(child);
+          return child.mood < 3 ? 2 * asArcher : asArcher;
         case SELF:
-          return child.mood >= 7 ? 0 : CHILD_TAKES / 2;
+          return child.mood >= 7 ? 0 : asBig;
         default:
-          return CHILD_TAKES;
+          return asChild;
       }
-    }
-
-    private static int archerTakes(Child child) {
-      return CHILD_TAKES + 3 * child.arch;
     }
 
     /** Before the coat is taken off it, and before it is held to 0. */
     static int snugs(int kind, Child child, Seat seat) {
       int asChild = 9 - seat.twists;
+      int asBig = asChild - child.size / 40;
       switch (kind) {
         case ARCHER:
         case HOWLER:
           return asChild - child.arch / 2;
         case BIG:
-          return asChild - child.size / 40;
+          return asBig;
         case BABY:
           return seat.turned == 1 ? asChild : asChild - 4;
         case SELF:
-          return asChild - child.size / 40 - 1;
+          return asBig - 1;
         default:
           return asChild;
       }
@@ -881,20 +880,14 @@ public final class SeatStraps {
           + 2 * there.crumbs
           + 4 * one.coat
           + rain
-          + secondsInTheWay(seat);
-    }
-
-    private int secondsInTheWay(int seat) {
-      if (seat == MIDDLE) {
-        return 8 * takenBeside(seat);
-      }
-      return 3 * takenBeside(seat);
+          + (seat == MIDDLE ? 8 : 3) * takenBeside(seat);
     }
 
     private int takenBeside(int seat) {
       int taken = 0;
       for (int s = 0; s < SEATS; s++) {
-        if (Math.abs(s - seat) == 1 && seats[s].isTaken()) {
+        boolean beside = s == seat - 1 || s == seat + 1;
+        if (beside && seats[s].sitter != NOBODY) {
           taken++;
         }
       }
@@ -915,7 +908,7 @@ public final class SeatStraps {
     void clickIn(int child, int seat) {
       Child one = children[child];
       Seat there = seats[seat];
-      spent = Math.min(MOST_SPENT, spent + secondsFor(child, seat));
+      spent = Math.min(MOST_SPENT, spent + secondsAs(one.kind, child, seat));
       one.tight = snugFor(child, seat);
       one.place = seat;
       there.sitter = child;
@@ -1039,25 +1032,21 @@ public final class SeatStraps {
 
   /** Finds the quickest way in which three children come into the three empty seats. */
   private static final class Ways {
-    private final Car car;
-    private final Car trial;
+    private static final int NO_WAY_YET = -1;
+
+    private final Car trial = new Car();
     private final int[] three = new int[SEATS];
     private final int[] steps = new int[SEATS];
     final int[] bestSteps = new int[SEATS];
-    int bestSeconds = 0;
-
-    Ways(Car car, Car trial) {
-      this.car = car;
-      this.trial = trial;
-    }
+    int bestSeconds = NO_WAY_YET;
 
     /** Ways come with the least child first, in the least seat, so the first of equals is kept. */
-    void find(int set) {
+    void find(Car car, int set) {
       listThree(set);
-      bestSeconds = Integer.MAX_VALUE;
+      bestSeconds = NO_WAY_YET;
       for (int child = 0; child < SEATS; child++) {
         for (int seat = 0; seat < SEATS; seat++) {
-          findFrom(child, seat);
+          findFrom(car, child, seat);
         }
       }
     }
@@ -1072,40 +1061,52 @@ public final class SeatStraps {
       }
     }
 
-    private void findFrom(int firstChild, int firstSeat) {
+    private void findFrom(Car car, int firstChild, int firstSeat) {
       for (int child = 0; child < SEATS; child++) {
         for (int seat = 0; seat < SEATS; seat++) {
           if (child != firstChild && seat != firstSeat) {
             trial.become(car);
-            int seconds = take(0, firstChild, firstSeat);
-            seconds += take(1, child, seat);
+            int takes = takeStep(0, firstChild, firstSeat);
+            takes += takeStep(1, child, seat);
             // The numbers 0, 1, 2 come to 3, which leaves the last child and seat.
-            seconds += take(2, 3 - firstChild - child, 3 - firstSeat - seat);
-            keepIfBetter(seconds);
+            takes += takeStep(2, 3 - firstChild - child, 3 - firstSeat - seat);
+            keepIfBetter(takes);
           }
         }
       }
     }
 
-    private int take(int step, int which, int seat) {
+    private int takeStep(int step, int which, int seat) {
       int child = three[which];
-      int seconds = trial.secondsFor(child, seat);
+      int takes = trial.secondsFor(child, seat);
       trial.clickIn(child, seat);
       steps[step] = 10 * child + seat;
-      return seconds;
+      return takes;
     }
 
-    private void keepIfBetter(int seconds) {
-      if (seconds < bestSeconds) {
-        bestSeconds = seconds;
+    private void keepIfBetter(int takes) {
+      if (bestSeconds == NO_WAY_YET || takes < bestSeconds) {
+        bestSeconds = takes;
         System.arraycopy(steps, 0, bestSteps, 0, SEATS);
       }
     }
   }
 
+  /** The bytes that were fed, read token by token. */
   private static final class Tape {
-    final int[] bytes = new int[MOST_BYTES];
+    static final int END = 0;
+    static final int WORD = 1;
+    static final int NUMBER = 2;
+    static final int SIGN = 3;
+    static final int OTHER = 4;
+    private static final int MOST_NUMBER = 999;
+
+    private final int[] bytes = new int[MOST_BYTES];
     int length = 0;
+    int token = END;
+    int start = 0;
+    private int end = 0;
+    private int value = 0;
 
     void add(int b) {
       if (length < MOST_BYTES) {
@@ -1113,123 +1114,159 @@ public final class SeatStraps {
         length++;
       }
     }
+
+    void first() {
+      end = 0;
+      next();
+    }
+
+    void next() {
+      start = end;
+      for (int i = 0; i < MOST_BYTES && byteAt(start) == ' '; i++) {
+        start++;
+      }
+      token = tokenWith(byteAt(start));
+      end = token == END ? start : start + 1;
+      value = token == NUMBER ? byteAt(start) - '0' : 0;
+      boolean goesOn = token == WORD || token == NUMBER;
+      for (int i = 0; i < MOST_BYTES && goesOn && tokenWith(byteAt(end)) == token; i++) {
+        // One above the most is enough to refuse it, and long rows of digits can't wrap.
+        value = token == NUMBER ? Math.min(MOST_NUMBER + 1, 10 * value + byteAt(end) - '0') : 0;
+        end++;
+      }
+    }
+
+    private static int tokenWith(int b) {
+      if (b < 0) {
+        return END;
+      }
+      if (b >= 'a' && b <= 'z') {
+        return WORD;
+      }
+      if (b >= '0' && b <= '9') {
+        return NUMBER;
+      }
+      return b == ';' ? SIGN : OTHER;
+    }
+
+    /** -1 where the tape has ended. */
+    private int byteAt(int i) {
+      return i >= 0 && i < length && i < MOST_BYTES ? bytes[i] : -1;
+    }
+
+    boolean isWord(String word) {
+      if (token != WORD || end - start != word.length()) {
+        return false;
+      }
+      for (int i = 0; i < word.length(); i++) {
+        if (byteAt(start + i) != word.charAt(i)) {
+          return false;
+        }
+      }
+      return true;
+    }
+
+    /** The number that stands here, or -1 if none does that is at most so much. */
+    int numberUpTo(int most) {
+      return token == NUMBER && value <= most ? value : -1;
+    }
   }
 
-  /** Reads the text of a car from the tape; its items come to the car that it was made with. */
+  /** The text of a car: its items come to a car, up to the first fault. */
   private static final class CarText {
     private static final int NO_FAULT = -1;
-    private static final int END = 0;
-    private static final int WORD = 1;
-    private static final int NUMBER = 2;
-    private static final int SIGN = 3;
-    private static final int OTHER = 4;
-    private static final int MOST_NUMBER = 999;
 
-    private final Tape tape;
-    private final Car car;
-    private int token = END;
-    private int start = 0;
-    private int end = 0;
-    private int value = 0;
+    final Tape tape = new Tape();
     int fault = NO_FAULT;
-
-    CarText(Tape tape, Car car) {
-      this.tape = tape;
-      this.car = car;
-    }
 
     boolean hasFault() {
       return fault != NO_FAULT;
     }
 
     /** How many items there are; with a fault the car is left half told. */
-    int parse() {
+    int parse(Car car) {
       fault = NO_FAULT;
-      end = 0;
-      next();
+      tape.first();
       for (int items = 1; items <= MOST_BYTES; items++) {
-        parseItem();
-        if (hasFault() || token == END) {
+        parseItem(car);
+        if (hasFault() || tape.token == Tape.END) {
           return items;
         }
-        if (token != SIGN) {
-          fault = start;
+        if (tape.token != Tape.SIGN) {
+          fault = tape.start;
           return items;
         }
-        next();
+        tape.next();
       }
       return MOST_BYTES;
     }
 
-    private void parseItem() {
+    private void parseItem(Car car) {
       int kind = kindNamed();
       if (isKind(kind)) {
-        parseChild(kind);
-      } else if (isWord("seat")) {
-        parseSeat();
-      } else if (isWord("rain")) {
-        int rain = numberBehind(MOST_RAIN);
-        if (!hasFault()) {
-          car.rain = rain;
-        }
+        parseChild(car, kind);
+      } else if (tape.isWord("seat")) {
+        parseSeat(car);
+      } else if (tape.isWord("rain")) {
+        car.rain = numberBehind(MOST_RAIN);
       } else {
-        fault = start;
+        fault = tape.start;
       }
     }
 
-    private void parseChild(int kind) {
+    private void parseChild(Car car, int kind) {
       if (car.isFull()) {
-        fault = start;
+        fault = tape.start;
         return;
       }
       Child one = car.children[car.add(kind)];
-      next();
-      if (isWord("size")) {
+      tape.next();
+      if (tape.isWord("size")) {
         one.size = numberBehind(MOST_SIZE);
       }
-      if (!hasFault() && isWord("mood")) {
+      if (!hasFault() && tape.isWord("mood")) {
         one.mood = numberBehind(MOST_MOOD);
       }
-      if (!hasFault() && isWord("coat")) {
+      if (!hasFault() && tape.isWord("coat")) {
         one.coat = 1;
-        next();
+        tape.next();
       }
     }
 
-    private void parseSeat() {
+    private void parseSeat(Car car) {
       int seat = numberBehind(SEATS - 1);
       if (hasFault() || !isSeat(seat)) {
         return;
       }
       Seat there = car.seats[seat];
       there.turned = 0;
-      if (isWord("twists")) {
+      if (tape.isWord("twists")) {
         there.twists = numberBehind(MOST_TWISTS);
       }
-      if (!hasFault() && isWord("crumbs")) {
+      if (!hasFault() && tape.isWord("crumbs")) {
         there.crumbs = numberBehind(MOST_CRUMBS);
       }
-      if (!hasFault() && isWord("turned")) {
+      if (!hasFault() && tape.isWord("turned")) {
         there.turned = 1;
-        next();
+        tape.next();
       }
     }
 
     /** The number behind the word that stands here; the token behind it comes next. */
     private int numberBehind(int most) {
-      next();
-      if (token != NUMBER || value > most) {
-        fault = start;
+      tape.next();
+      int number = tape.numberUpTo(most);
+      if (number < 0) {
+        fault = tape.start;
         return 0;
       }
-      int number = value;
-      next();
+      tape.next();
       return number;
     }
 
     private int kindNamed() {
       for (int kind = 0; kind < KINDS; kind++) {
-        if (isWord(nameOf(kind))) {
+        if (tape.isWord(nameOf(kind))) {
           return kind;
         }
       }
@@ -1251,61 +1288,6 @@ public final class SeatStraps {
         default:
           return "child";
       }
-    }
-
-    private boolean isWord(String word) {
-      if (token != WORD || end - start != word.length()) {
-        return false;
-      }
-      for (int i = 0; i < word.length(); i++) {
-        if (byteAt(start + i) != word.charAt(i)) {
-          return false;
-        }
-      }
-      return true;
-    }
-
-    private void next() {
-      start = end;
-      for (int i = 0; i < MOST_BYTES && byteAt(start) == ' '; i++) {
-        start++;
-      }
-      token = tokenWith(byteAt(start));
-      if (token == WORD || token == NUMBER) {
-        readOn();
-      } else {
-        end = token == END ? start : start + 1;
-      }
-    }
-
-    private void readOn() {
-      value = 0;
-      end = start;
-      for (int i = 0; i < MOST_BYTES && tokenWith(byteAt(end)) == token; i++) {
-        if (token == NUMBER) {
-          // One above the most is enough to refuse it, and long rows of digits can't wrap.
-          value = Math.min(MOST_NUMBER + 1, 10 * value + byteAt(end) - '0');
-        }
-        end++;
-      }
-    }
-
-    private static int tokenWith(int b) {
-      if (b < 0) {
-        return END;
-      }
-      if (b >= 'a' && b <= 'z') {
-        return WORD;
-      }
-      if (b >= '0' && b <= '9') {
-        return NUMBER;
-      }
-      return b == ';' ? SIGN : OTHER;
-    }
-
-    /** -1 where the tape has ended. */
-    private int byteAt(int i) {
-      return i >= 0 && i < tape.length && i < MOST_BYTES ? tape.bytes[i] : -1;
     }
   }
 

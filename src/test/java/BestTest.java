@@ -84,6 +84,7 @@ final class BestTest {
     due.is("22: none", x.all(0), Due.SIZE);
     due.is("22: four", x.all(15), Due.SIZE);
     due.is("22: no child 4", x.all(16 + 3), Due.BEYOND);
+    due.is("22: child 4 alone", x.all(16), Due.BEYOND);
     due.is("22: below 0", x.all(-1), Due.BEYOND);
     due.is("22: MIN", x.all(Due.MIN), Due.BEYOND);
     due.is("22: MAX", x.all(Due.MAX), Due.BEYOND);
@@ -219,5 +220,9 @@ final class BestTest {
     due.is("28: by then it had", x.out(2) < 20 ? 1 : 0, 1);
     due.is("28: nothing changes", x.now(3), 7);
     due.is("28: n MAX", x.worst(Due.MAX), Due.BEYOND);
+    SeatStraps y = Due.carOfAllKinds();
+    y.set(5, 2, 9);
+    y.click(5, 1);
+    due.is("28: the last one, in the best mood", y.worst(0), 5);
   }
 }

@@ -247,6 +247,11 @@ final class ChildrenTest {
       x.set(2, 1, size[0]);
       due.is("11: BIG of " + size[0], x.snug(2, 0), size[1]);
     }
+    for (int[] size : sizes) {
+      x.set(5, 3, 0);
+      x.set(5, 1, size[0]);
+      due.is("11: SELF of " + size[0], x.snug(5, 0), size[1] - 1);
+    }
     x.click(2, 0);
     due.is("11: one that sits, where one sits", x.snug(2, 0), 9);
     due.is("11: seat 3", x.snug(0, 3), Due.BEYOND);

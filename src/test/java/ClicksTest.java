@@ -210,6 +210,11 @@ final class ClicksTest {
     due.is("16: TIGHT", x.now(5), 16);
     x.drive(7);
     due.is("16: MINUTE", x.now(0), 7);
+    SeatStraps six = Due.carOfAllKinds();
+    six.click(5, 0);
+    due.is("16: MOODS of six", six.now(4), 30);
+    due.is("16: TIGHT of six", six.now(5), 8);
+    due.is("16: the last one sits", six.now(3), 32);
     due.is("16: what 6", x.now(6), Due.BEYOND);
     due.is("16: what -1", x.now(-1), Due.BEYOND);
     due.is("16: extremes", x.now(Due.MIN), Due.BEYOND);

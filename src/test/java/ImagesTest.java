@@ -5,6 +5,7 @@ final class ImagesTest {
   public static void main(String[] args) {
     imageAndUndo();
     whatIsNotKept();
+    newOnesBehindUndo();
     tear();
     count();
     status();
@@ -98,6 +99,26 @@ final class ImagesTest {
     due.is("39: the tape stays", x.count(1), 6);
     due.is("39: the tape stays", x.car(), 1);
     due.is("39: status stays", x.status(0), 1);
+  }
+
+  /** Nothing is left of those that undo() took away. */
+  private static void newOnesBehindUndo() {
+    SeatStraps x = Due.carOf(2);
+    x.image();
+    x.child(4);
+    x.set(1, 1, 80);
+    x.set(1, 2, 9);
+    x.set(1, 3, 1);
+    x.set(1, 4, 6);
+    x.click(1, 1);
+    x.undo();
+    due.is("39: moods of those that are left", x.now(4), 5);
+    due.is("39: nobody is tight", x.now(5), 0);
+    due.is("39: a new one", x.child(3), 1);
+    int[] atFirst = {3, 30, 5, 0, 0, 0, -1};
+    for (int what = 0; what < 7; what++) {
+      due.is("39: as at first, what " + what, x.of(1, what), atFirst[what]);
+    }
   }
 
   private static void tear() {

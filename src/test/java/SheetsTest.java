@@ -20,9 +20,11 @@ final class SheetsTest {
       for (int s = 0; s < 4; s++) {
         due.is("32: 40 numbers", x.sheet(s, b, 40), 40);
         due.is("32: the last one", x.write(s, 39, 3), 0);
+        due.is("32: the first one", x.write(s, 0, 3), 0);
         due.is("32: none behind it", x.write(s, 40, 3), Due.BEYOND);
         due.is("32: made anew", x.sheet(s, b, 40), 40);
         due.is("32: all 0", x.write(s, 39, 4), 0);
+        due.is("32: all 0", x.write(s, 0, 4), 0);
         due.is("32: smaller", x.sheet(s, b, 1), 1);
         due.is("32: smaller", x.write(s, 1, 0), Due.BEYOND);
         due.is("32: none", x.sheet(s, b, 0), 0);

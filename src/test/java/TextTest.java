@@ -165,6 +165,17 @@ final class TextTest {
     fault("child" + (char) 228, 5);
     fault((char) 0 + "child", 0);
     fault((char) 255 + "", 0);
+    fault("rain 1" + (char) 0, 6);
+    fault("rain 1;" + (char) 0, 7);
+    fault("seat twists x", 5);
+    fault("xain 1", 0);
+    fault("xeat 1", 0);
+    fault("xhild", 0);
+    fault("chilx", 0);
+    fault("child xize 1", 6);
+    fault("child moox 1", 6);
+    fault("childs", 0);
+    fault("c", 0);
     fault("child`", 5);
     fault("child{", 5);
     fault("rain /", 5);
