@@ -31,6 +31,10 @@ final class Due {
     }
   }
 
+  int asked() {
+    return asked;
+  }
+
   void end() {
     System.out.println(test + ": " + asked + " answers, " + wrong + " not as due");
     if (wrong != 0) {
