@@ -168,6 +168,10 @@ final class BestEdgesTest {
     baby.seat(0, 2, 1);
     edges.is("BABY in seat 0, but not ahead of the other one", baby.way(7, 1), 12);
     edges.is("BABY at the end", baby.way(7, 2), 20);
+    SeatStraps middle = Due.carOf(0, 3, 0);
+    middle.seat(1, 2, 1);
+    int steps = middle.way(7, 0) * 10000 + middle.way(7, 1) * 100 + middle.way(7, 2);
+    edges.is("BABY first, then the least child", steps, 110022);
   }
 
   private static void wayBeyond() {
@@ -309,6 +313,13 @@ final class BestEdgesTest {
     x.set(4, 2, 4);
     edges.is("alike now: the least", x.worst(0), 1);
     edges.is("on 1", x.worst(1), 4);
+    SeatStraps best = Due.carOf(0, 0);
+    best.set(0, 2, 9);
+    best.set(1, 2, 9);
+    best.click(1, 0);
+    edges.is("in the best mood", best.worst(0), 1);
+    best.click(0, 2);
+    edges.is("the least of two in the best mood", best.worst(0), 0);
   }
 
   private static void worstBeyond() {

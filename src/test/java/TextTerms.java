@@ -111,6 +111,11 @@ final class TextTerms {
     faultAt("rain 10", 5);
     faultAt("  rain 10", 7);
     faultAt("snow 1", 0);
+    faultAt("gain 1", 0);
+    faultAt("rails 1", 0);
+    faultAt("rai 1", 0);
+    faultAt("seat 0 twist 1", 7);
+    faultAt("baby boat", 5);
     faultAt("rain one", 5);
     faultAt("rain 1;snow 1", 7);
     faultAt("rain 1?", 6);
