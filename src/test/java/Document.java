@@ -37,6 +37,34 @@ final class Document {
     return sentences;
   }
 
+  /** The members of the public face, in the document's order, without "public" and ";". */
+  List<String> face() {
+    List<String> members = new ArrayList<>();
+    int from = text.indexOf("public final class SeatStraps {");
+    int to = text.indexOf("\n}", Math.max(0, from));
+    if (from >= 0 && to > from) {
+      Matcher m = Pattern.compile("\n    public ([^;]*);").matcher(text.substring(from, to));
+      while (m.find()) {
+        members.add(m.group(1));
+      }
+    }
+    return members;
+  }
+
+  /** Heading by heading of the interface: itself, and then the calls behind it. */
+  List<List<String>> headings() {
+    List<List<String>> headings = new ArrayList<>();
+    Matcher m = Pattern.compile("Ahead of the calls (.*) the interface says: (---- .*)\\.\n").matcher(text);
+    while (m.find()) {
+      List<String> heading = new ArrayList<>(List.of(m.group(2)));
+      for (String call : m.group(1).split(", ")) {
+        heading.add(call.replace("`", ""));
+      }
+      headings.add(heading);
+    }
+    return headings;
+  }
+
   private String promise(int number) {
     Matcher m = Pattern.compile("## Promise " + number + ": [^\\n]*\\n\\n`[^`]*`: ([^\\n]*)\\n").matcher(text);
     return m.find() ? m.group(1) : "";

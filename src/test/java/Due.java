@@ -1,3 +1,5 @@
+import java.util.function.Supplier;
+
 /** Counts the answers that are not as due; every test of the project ends with end(). */
 final class Due {
   static final int BEYOND = -1000000001;
@@ -22,11 +24,16 @@ final class Due {
   }
 
   void is(String call, long got, long want) {
+    is(() -> call, got, want);
+  }
+
+  /** For calls by the million, whose names are not worth making before one goes wrong. */
+  void is(Supplier<String> call, long got, long want) {
     asked++;
     if (got != want) {
       wrong++;
       if (wrong <= MOST_SHOWN) {
-        System.out.println(test + ": " + call + " answered " + got + ", due is " + want);
+        System.out.println(test + ": " + call.get() + " answered " + got + ", due is " + want);
       }
     }
   }
