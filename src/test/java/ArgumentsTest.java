@@ -1,7 +1,7 @@
 import java.util.ArrayList;
 import java.util.List;
 
-/** Every call with every combination of right, wrong and wild arguments, on cars in several states, as the model has it. */
+/** Every call with all combinations of chosen numbers, right and wrong ones, on six cars, as the model has it. */
 final class ArgumentsTest {
   private static final long[] MANY = {Due.MIN, -1, 0, 1, 2, 3, 4, 5, 6, 7, 8, 9, 10, 16, 35, 40, 41, 56, 60, 61, 63, 64, 99, 100, Due.MAX};
   private static final long[] SOME = {Due.MIN, -1, 0, 1, 2, 3, 4, 5, 6, 8, 10, 40, 41, 60, 64, 100, Due.MAX};
